@@ -762,14 +762,12 @@ public final class SueOrSettle {
                 && ab / 100 >= 1 && ab / 100 <= MOST_WEIGHT && ab / 100 <= ab % 100;
     }
 
+    /** Of a thing that hangs on none the greatest weight has the greatest bottom. */
     private boolean isBigWithin(int thing, int ab) {
         int place = Things.placeOf(thing, 0, 0);
         int was = things.weightAt(place);
-        boolean big = false;
-        for (int v = ab / 100; v <= ab % 100 && !big; v++) {
-            things.setWeight(place, v);
-            big = things.bottomOf() == 0;
-        }
+        things.setWeight(place, ab % 100);
+        boolean big = things.bottomOf() == 0;
         things.setWeight(place, was);
         return big;
     }
@@ -1261,35 +1259,37 @@ public final class SueOrSettle {
                     shares[3 * thing + row] = sum < 1 ? 0 : multiple / sum;
                 }
             }
-            for (int code = 0; code < codes(); code++) {
-                masses[code] = numberOf(code);
+            masses[0] = 1;
+            for (int thing = 0; thing < size; thing++) {
+                spread(thing);
             }
             for (int thing = 0; thing < size; thing++) {
                 addUp(thing);
             }
         }
 
-        /** The number of the state that a code tells whole, else 0. */
-        private long numberOf(int code) {
-            long product = 1;
-            for (int thing = 0; thing < size; thing++) {
-                int way = (code >> 2 * thing & 3) - 1;
-                if (way < 0 || way >= ways[thing]) {
-                    return 0;
-                }
+        /** From the numbers of the states of the things ahead to those with this thing; codes that tell no state: 0. */
+        private void spread(int thing) {
+            for (int code = 0; code < 1 << 2 * thing; code++) {
+                long ahead = masses[code];
                 int row = on[thing] < 0 ? 0 : (code >> 2 * on[thing] & 3) - 1;
-                product *= weights[placeOf(thing, row, way)] * shares[3 * thing + row];
+                for (int way = 0; way < 3; way++) {
+                    boolean told = ahead > 0 && row >= 0 && way < ways[thing];
+                    masses[code | (way + 1) << 2 * thing] =
+                            told ? ahead * weights[placeOf(thing, row, way)] * shares[3 * thing + row] : 0;
+                }
+                masses[code] = 0;
             }
-            return product;
         }
 
         /** Codes that tell nothing of this thing become the sums over its ways; lower things are summed by then. */
         private void addUp(int thing) {
-            for (int code = 0; code < codes(); code++) {
-                if ((code >> 2 * thing & 3) == 0) {
+            int unit = 1 << 2 * thing;
+            for (int from = 0; from < codes(); from += 4 * unit) {
+                for (int code = from; code < from + unit; code++) {
                     long sum = 0;
-                    for (int way = 0; way < ways[thing]; way++) {
-                        sum += masses[code | (way + 1) << 2 * thing];
+                    for (int way = 1; way <= ways[thing]; way++) {
+                        sum += masses[code + way * unit];
                     }
                     masses[code] = sum;
                 }
