@@ -590,8 +590,7 @@ public final class SueOrSettle {
         if (shelfHolds[shelf] >= FIRST_FEELING || shelfHolds[shelf] != shelfHolds[other]) {
             return OTHER_KIND;
         }
-        if (n < 0 || i < 0 || j < 0 || n > shelfSize[shelf] || n > shelfSize[other]
-                || i > shelfSize[shelf] - n || j > shelfSize[other] - n) {
+        if (n < 0 || i < 0 || j < 0 || i > shelfSize[shelf] - n || j > shelfSize[other] - n) {
             return NO_PLACE;
         }
         System.arraycopy(shelfRows, MOST_ELEMENTS * shelf + i, shelfRows, MOST_ELEMENTS * other + j, n);

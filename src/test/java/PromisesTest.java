@@ -229,6 +229,8 @@ public final class PromisesTest {
         due("full", x.quarrel(), FULL);
         due("tape stays", x.count(2), 1);
         due("six", x.count(1), 6);
+        due("no seventh", x.node(6, 0, 2), VOID);
+        due("no seventh", x.tell(6, -1), BAD);
         x = new SueOrSettle();
         String five = "A=?(0:1,0:2,0:3,0:4);";
         String more = "B=?(0:A,0:A,0:A,0:A);C=?(0:A,0:A,0:?(0:1,0:1));D=?(0:B,0:C);";
@@ -625,20 +627,14 @@ public final class PromisesTest {
         due("up", x.edgeOf(0, 0, 1, 2), BAD);
         due("node", x.edgeOf(0, 5, -1, 1), BAD);
         due("quarrel", x.edgeOf(-1, 0, 0, 1), BAD);
-        x.change(0, 1, -1, 980);
-        x.change(0, 3, -1, 999);
-        x.change(0, 4, -1, 990);
-        due("at its bound", x.edgeOf(0, 3, -1, 1), NOT);
-        x.change(0, 1, -1, 5);
-        x.change(0, 3, -1, 8);
-        x.change(0, 4, -1, -999);
-        due("down to -999", x.edgeOf(0, 1, -1, 0), NOT);
+        x = suit();
         tell(x, "!a(?(0:5,0:7),?(0:1,0:50))");
         due("the second choice is not the first", x.edgeOf(1, 4, 1, 1), NOT);
         due("the first one", x.edgeOf(1, 1, 1, 1), 2);
         due("end of the second", x.edgeOf(1, 5, -1, 1), NOT);
         promise = 28;
         due("of the first choice", x.most(1), 2);
+        bounds();
         x = suit();
         due("settling", x.most(0), 1);
         due("quarrel", x.most(1), BAD);
@@ -652,6 +648,66 @@ public final class PromisesTest {
         due("20 up by 3, 14 down by 3: the least node", x.most(3), 5);
         tell(x, "?(0:5,0:5,0:5)");
         due("one down", x.most(4), 1);
+    }
+
+    /** Moves end at the bounds of costs, ends and weights, and by the 40th. */
+    private static void bounds() {
+        promise = 27;
+        SueOrSettle x = new SueOrSettle();
+        x.thing(2);
+        x.thing(2);
+        x.hang(1, 0);
+        String[] texts = {"?(0:999,0:998)", "?(0:999,0:!a(999,998))", "?(0:-998,0:-999)", "?(99:0,0:0)", "?(98:0,98:0)"};
+        for (String text : texts) {
+            tell(x, text);
+        }
+        due("998 up: like the first alone", x.edgeOf(0, 2, -1, 1), NOT);
+        due("999 down", x.edgeOf(0, 1, -1, 0), 2);
+        due("a half up: like the first alone", x.edgeOf(1, 4, -1, 1), NOT);
+        due("-998 down to -999: like", x.edgeOf(2, 1, -1, 0), NOT);
+        due("-999 up", x.edgeOf(2, 2, -1, 1), 2);
+        due("cost 99 up", x.edgeOf(3, 0, 0, 1), NOT);
+        due("cost 0 up to 99: more than 40", x.edgeOf(3, 0, 1, 1), NOT);
+        due("cost 98 up", x.edgeOf(4, 0, 0, 1), 1);
+        due("cost 98 down", x.edgeOf(4, 0, 1, 0), 1);
+        x.change(4, 0, 0, 99);
+        due("cost 98 up to 99: like, so the first", x.edgeOf(4, 0, 1, 1), 1);
+        x.change(4, 2, -1, 1);
+        due("cost 98 up to 99: not enough", x.edgeOf(4, 0, 1, 1), NOT);
+        x.change(4, 2, -1, 0);
+        x.change(4, 0, 0, 0);
+        x.change(4, 0, 1, 1);
+        due("cost 1 down to 0: like", x.edgeOf(4, 0, 1, 0), NOT);
+        x.change(4, 2, -1, 1);
+        x.change(4, 0, 0, 60);
+        x.change(4, 0, 1, 20);
+        due("20 to 61: 41 moves", x.edgeOf(4, 0, 1, 1), NOT);
+        x.change(4, 0, 1, 21);
+        due("21 to 61: 40 moves", x.edgeOf(4, 0, 1, 1), 40);
+        promise = 28;
+        due("40 moves", x.most(4), 1);
+        x.change(4, 0, 1, 20);
+        due("41 moves", x.most(4), NOT);
+        promise = 26;
+        x = new SueOrSettle();
+        x.thing(2);
+        x.thing(3);
+        x.hang(1, 0);
+        x.weight(1, 1, 2, 94);
+        x.weight(1, 1, 0, 99);
+        // Of row 1: 99, 1 and w; of row 0: 1, 1 and 1. Way 1 pays 100 where b is its third way and a its second one.
+        tell(x, "?(0:24,0:!a(0,!b(0,0,100)))");
+        due("w 94, 93: more than 24 of 50; 92: less", x.edge(0, 112, 0), 2);
+        due("stays", x.weight(1, 1, 2, 94), 94);
+        x.change(0, 1, -1, 25);
+        due("beyond 99", x.edge(0, 112, 1), NOT);
+        x.weight(1, 1, 0, 98);
+        due("w to 100 is beyond", x.edge(0, 112, 1), NOT);
+        x.weight(1, 1, 0, 97);
+        due("w to 99", x.edge(0, 112, 1), 5);
+        due("row 0 does not matter", x.edge(0, 102, 1), NOT);
+        due("of a", x.edge(0, 1, 1), 1);
+        due("no row 2", x.edge(0, 120, 1), BAD);
     }
 
     private static void doubts() {
@@ -696,6 +752,13 @@ public final class PromisesTest {
         promise = 29;
         due("hangs", x.doubt(0, 1, 105, 0), BAD);
         due("no choice", x.doubt(0, 0, 105, 1), 5);
+        // A plan of more nodes than a long holds.
+        tell(x, "A=?(0:1,0:2);B=?(0:A,0:A,0:A,0:A);C=?(0:B,0:B,0:B);?(0:C,0:!a(9,?(0:0,0:1)))");
+        due("steady", x.doubt(1, 0, 105, 1), 5);
+        int last = x.node(1, 0, 2) - 1;
+        due("the last choice", x.plan(1, last - 2, -1), 1);
+        due("the last of A", x.plan(1, 38, -1), 1);
+        due("the first", x.plan(1, 0, -1), 1);
     }
 
     private static void bigness() {
@@ -809,6 +872,8 @@ public final class PromisesTest {
         due("0 columns", x.table(1, 0), BAD);
         due("5 columns", x.table(1, 5), BAD);
         due("none yet", x.sure(-1), BAD);
+        due("1 by 1", x.table(1, 1), 1);
+        due("sure", x.sure(-1), 1);
         due("3 by 4", x.table(3, 4), 12);
         promise = 32;
         due("at first", x.cell(23, 1, -99), 0);
@@ -931,6 +996,7 @@ public final class PromisesTest {
         due("d 35", x.holds(35, 2), 0);
         due("d 55: 90 of both is taken, 70 too", x.holds(55, 1), 0);
         due("d 55", x.holds(55, 2), 3);
+        due("d 99", x.holds(99, 2), 3);
         due("d", x.holds(-1, 0), BAD);
         due("what", x.holds(0, 3), BAD);
         due("what", x.holds(0, -1), BAD);
@@ -989,6 +1055,7 @@ public final class PromisesTest {
         due("won", x.hired(-1, 0), BAD);
         due("what", x.hired(1, 4), BAD);
         due("what", x.hired(1, -2), BAD);
+        due("all won", x.hired(999, 0), 3);
         promise = 40;
         due("third", x.effort(99, 100), 3);
         due("fourth", x.effort(0, 0), 4);
@@ -999,7 +1066,12 @@ public final class PromisesTest {
         due("there were", x.hired(1, -1), 4);
         due("none now", x.hired(1, 1), STATE);
         promise = 40;
-        due("again", x.effort(0, 0), 1);
+        due("again", x.effort(10, 70), 1);
+        due("again", x.effort(0, 20), 2);
+        promise = 41;
+        due("of like ones the first", x.hired(100, 0), 20);
+        due("of like ones the first", x.hired(100, 1), 0);
+        due("80 * 70 / 100", x.hired(100, 2), 56);
     }
 
     private static void daysToSettle() {
