@@ -3,31 +3,43 @@ import java.lang.management.ManagementFactory;
 /** What calls make is kept small: an object's own rows, a quarrel's rows as it is told, a feeling; nothing else. */
 public final class RoomTest {
     private static int wrong = 0;
+    private static boolean measured = false;
+
+    private static final com.sun.management.ThreadMXBean THREADS =
+            (com.sun.management.ThreadMXBean) ManagementFactory.getThreadMXBean();
 
     private static long made() {
-        return ((com.sun.management.ThreadMXBean) ManagementFactory.getThreadMXBean()).getThreadAllocatedBytes(
-                Thread.currentThread().getId());
+        return THREADS.getThreadAllocatedBytes(Thread.currentThread().getId());
     }
 
     private static void check(String what, long bytes, long most) {
-        if (bytes > most) {
+        if (measured && bytes > most) {
             wrong++;
             System.out.println(what + " made " + bytes + " bytes, at most " + most + " are due");
         }
     }
 
     public static void main(String[] args) {
-        made();
-        new SueOrSettle();
+        // The first time the machine makes objects of its own, as it loads classes.
+        calls();
+        measured = true;
+        calls();
+        System.out.println(wrong == 0 ? "the room is kept small" : wrong + " take too much room");
+        if (wrong != 0) {
+            System.exit(1);
+        }
+    }
+
+    private static void calls() {
+        byte[] text = ("A=?(0:1,0:2,0:3,0:4);B=?(0:A,0:A,0:A,0:A);C=?(0:A,0:A,0:?(0:1,0:1));D=?(0:B,0:C);"
+                + "?(0:B,0:B,0:B,0:D)").getBytes();
         long before = made();
         SueOrSettle x = new SueOrSettle();
-        check("an object", made() - before, 32000);
+        check("an object", made() - before, 26000);
         for (int thing = 0; thing < 4; thing++) {
             x.thing(3);
             x.hang(thing, 0);
         }
-        byte[] text = ("A=?(0:1,0:2,0:3,0:4);B=?(0:A,0:A,0:A,0:A);C=?(0:A,0:A,0:?(0:1,0:1));D=?(0:B,0:C);"
-                + "?(0:B,0:B,0:B,0:D)").getBytes();
         before = made();
         for (int i = 0; i < 8; i++) {
             for (byte sign : text) {
@@ -35,21 +47,17 @@ public final class RoomTest {
             }
             x.quarrel();
         }
-        check("six quarrels", made() - before, 60000);
+        check("six quarrels", made() - before, 52000);
         before = made();
         for (int i = 0; i < 25; i++) {
             x.feeling(i % 6, 50);
         }
-        check("twenty feelings", made() - before, 2000);
+        check("twenty feelings", made() - before, 1000);
         before = made();
         for (int i = 0; i < 40; i++) {
             dearCalls(x, i);
         }
-        check("dear calls", made() - before, 2000);
-        System.out.println(wrong == 0 ? "the room is kept small" : wrong + " take too much room");
-        if (wrong != 0) {
-            System.exit(1);
-        }
+        check("dear calls", made() - before, 200);
     }
 
     private static void dearCalls(SueOrSettle x, int i) {
