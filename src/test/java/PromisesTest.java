@@ -377,6 +377,23 @@ public final class PromisesTest {
         due("the sixth of them", x.weight(0, 0, 0, 5), 5);
         due("like is a change too", x.undo(), 0);
         due("and again", x.redo(), 0);
+        tell(x, "?(1:2,3:?(4:5,6:7))");
+        promise = 12;
+        due("of another quarrel", x.change(1, 2, 1, 66), 6);
+        due("of another quarrel", x.change(1, 4, -1, 77), 7);
+        due("of the first one", x.change(0, 3, -1, 8), 80);
+        x.undo();
+        due("80 again", x.node(0, 3, 1), 80);
+        x.undo();
+        due("7 again", x.node(1, 4, 1), 7);
+        x.undo();
+        due("6 again", x.node(1, 2, 21), 6);
+        promise = 13;
+        x.redo();
+        due("66 again", x.node(1, 2, 21), 66);
+        x.redo();
+        due("77 again", x.node(1, 4, 1), 77);
+        due("others stay", x.node(1, 2, 20) + x.node(1, 0, 21) + x.node(0, 0, 21), 4 + 3 + 99);
     }
 
     private static void feelings() {
@@ -597,6 +614,10 @@ public final class PromisesTest {
         due("up never", x.edge(0, 0, 1), NOT);
         due("1 to 3", x.edge(0, 1, 1), 2);
         due("at its bound", x.edge(0, 1, 0), NOT);
+        x.change(0, 1, -1, 50);
+        due("like at first: one down", x.edge(0, 0, 0), NOT);
+        due("like at first: one up", x.edge(0, 0, 1), 1);
+        x.undo();
         due("weights stay", x.chance(1, 0, 1), 4);
         due("nothing to undo", x.count(4), 1);
         due("up 2", x.edge(0, 0, 2), BAD);
@@ -924,6 +945,12 @@ public final class PromisesTest {
         duel(x, 4, 7, 1, 9);
         due("4 is sure", x.lots(0), 4);
         due("4 is sure", x.lots(1), 1);
+        duel(x, 1, 9, 4, 7);
+        due("4 below", x.lots(0), 4);
+        duel(x, 7, 4, 9, 1);
+        due("4 beside", x.lots(0), 4);
+        duel(x, 9, 1, 7, 4);
+        due("4 across", x.lots(0), 4);
         duel(x, 6, 6, 6, 6);
         due("all alike", x.lots(0), 6);
         x.table(2, 3);
@@ -1001,7 +1028,7 @@ public final class PromisesTest {
         due("what", x.holds(0, 3), BAD);
         due("what", x.holds(0, -1), BAD);
         promise = 36;
-        due("third", x.sort(9, 0, 99), 3);
+        due("third", x.sort(9, 99, 99), 3);
         due("fourth", x.sort(9, 0, 99), FULL);
         due("bad ahead of full", x.sort(0, 0, 0), BAD);
         promise = 37;
@@ -1056,6 +1083,13 @@ public final class PromisesTest {
         due("what", x.hired(1, 4), BAD);
         due("what", x.hired(1, -2), BAD);
         due("all won", x.hired(999, 0), 3);
+        x.hired(0, -1);
+        x.effort(0, 10);
+        x.effort(1, 60);
+        due("1 of 100 will do", x.hired(999, 0), 1);
+        x.hired(0, -1);
+        x.effort(0, 20);
+        x.effort(10, 70);
         promise = 40;
         due("third", x.effort(99, 100), 3);
         due("fourth", x.effort(0, 0), 4);
@@ -1322,6 +1356,7 @@ public final class PromisesTest {
         x.put(5, 3, 0);
         due("false", x.element(5, 3), 0);
         x.row(5, 4, 4);
+        due("0 again", x.element(5, 0), 0);
         due("0 again", x.element(5, 2), 0);
         x.put(2, 1, NONE);
         due("the least long", x.element(2, 1), NONE);
