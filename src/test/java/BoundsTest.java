@@ -192,6 +192,61 @@ public final class BoundsTest {
         }
         due("the other one's stays", x.weight(0, 0, 1, 1), 7);
         due("what was undone stays so", x.weight(2, 0, 0, 1), 1);
+        x = with(3, 2, 3, 2);
+        for (int i = 0; i < 12; i++) {
+            x.weight(i / 3, 0, i % 3, 20 + i);
+        }
+        due("each by its own", x.bottom(), 63L * 47 * 81 * 59);
+        due("it hangs", x.hang(1, 0), 1);
+        due("1 and 1", x.bottom(), 63L * 2 * 81 * 59);
+        due("the third hangs", x.hang(3, 1), 1);
+        for (int i = 0; i < 12; i++) {
+            int thing = i / 3;
+            int was = thing % 2 == 0 ? 20 + i : i % 3 == 2 ? BAD : 1;
+            due("thing " + thing + " way " + i % 3, x.weight(thing, 0, i % 3, 1), was);
+        }
+        chainOfThings();
+    }
+
+    /** b hangs on a, c on b, d on c: each by the row of its own. */
+    private static void chainOfThings() {
+        SueOrSettle x = with(2, 3, 2, 2);
+        for (int thing = 1; thing < 4; thing++) {
+            x.hang(thing, thing - 1);
+        }
+        x.weight(1, 1, 2, 4);
+        x.weight(2, 2, 1, 3);
+        x.weight(3, 1, 0, 7);
+        // 2 by (3, 6) by (2, 2, 4) by (2, 8)
+        due("2 by 6 by 4 by 8", x.bottom(), 384);
+        // a 1 of 2, b 4 of 6, c 3 of 4, d 7 of 8
+        due("1, 2, 1, 0", x.number(1 + 8 + 16), 4 * 3 * 7);
+        due("1, 2, 1, 1", x.number(1 + 8 + 16 + 64), 4 * 3);
+        due("0, 2, 0, 0", x.number(8), 2 * 4);
+        due("0, 2, 0, 0: 1 of 2, 1 of 3, 1 of 4, 1 of 2", x.number(8), 384 / 48);
+        due("1, 0, 1, 0: 1 of 2, 1 of 6, 1 of 2, 7 of 8", x.number(1 + 16), 384 * 7 / 192);
+        fraction("d given c and a", x.chance(1 << 6, 2 << 4 | 2, 0), x.chance(1 << 6, 2 << 4 | 2, 1), 7, 8);
+        tell(x, "!d(!c(!b(!a(0,1),!a(2,3),!a(4,5)),!b(!a(6,7),!a(8,9),!a(10,11))),!c(!b(!a(12,13),!a(14,15),!a(16,17)),18))");
+        int[][][] weights = {{{1, 1}}, {{1, 1, 1}, {1, 1, 4}}, {{1, 1}, {1, 1}, {1, 3}}, {{1, 1}, {7, 1}}};
+        for (int seed = 0; seed < 150; seed++) {
+            int z = seed;
+            int[] ways = new int[4];
+            for (int thing = 0; thing < 4; thing++) {
+                z = z * 1103515245 + 12345;
+                int[] row = weights[thing][thing == 0 ? 0 : ways[thing - 1]];
+                int sum = 0;
+                for (int each : row) {
+                    sum += each;
+                }
+                int left = (z >>> 8) % sum;
+                while (left >= row[ways[thing]]) {
+                    left -= row[ways[thing]];
+                    ways[thing]++;
+                }
+            }
+            int end = 12 * ways[3] + 6 * ways[2] + 2 * ways[1] + ways[0];
+            due("seed " + seed, x.run(0, seed, 1), Math.min(18, end));
+        }
     }
 
     private static void weights() {
@@ -362,6 +417,21 @@ public final class BoundsTest {
         due("3 more", x.feed(3, 0x29353a), 200);
         due("is told", x.quarrel(), 1);
         due("empty", x.quarrel(), -100);
+
+        // Nodes as dense as they can be: 40, of which 11 ends are three more each.
+        String dense = "!a(!b(X,X,X),!b(X,X,X),!b(X,X,X))".replace("X", "!c(1,!d(7,8,9),1)")
+                .replaceFirst("c.1", "c(!d(4,5,6)").replaceFirst("c.1", "c(!d(4,5,6)");
+        x = with(3, 3, 3, 3);
+        due("193", feed(x, dense), 193);
+        due("is told", x.quarrel(), 0);
+        due("73 nodes", x.node(0, 0, 2), 73);
+        due("the last", x.node(0, 72, 1), 1);
+        due("the last but one", x.node(0, 71, 1), 9);
+        x = new SueOrSettle();
+        for (int i = 0; i < 100; i++) {
+            due("each text is read anew", tell(x, "?(0:1,0:2"), -109);
+        }
+        due("each text is read anew", tell(x, "?(0:1,0:2)"), 0);
 
         says("A QUARREL (0 .. 5, as they come)");
         x = new SueOrSettle();
@@ -694,6 +764,7 @@ public final class BoundsTest {
         due("40", x.count(4), 40);
         for (int i = 39; i >= 0; i--) {
             due("undone", x.undo(), i);
+            due("what it was", x.number(0), 2 + i);
         }
         due("none", x.undo(), STATE);
         due("the first one stays", x.number(0), 2);
@@ -708,6 +779,46 @@ public final class BoundsTest {
         due("behind 37", x.weight(0, 0, 1, 5), 1);
         due("38", x.count(4), 38);
         due("none again", x.redo(), STATE);
+        farChanges();
+    }
+
+    /** The first and the last of all places: a node that is alone, and the last way of the last choice of the last quarrel. */
+    private static void farChanges() {
+        SueOrSettle x = with(3, 3, 3, 3);
+        x.hang(3, 2);
+        tell(x, "5");
+        for (int i = 1; i < 5; i++) {
+            tell(x, "6");
+        }
+        tell(x, "A=?(0:1,0:2,0:3,0:4);B=?(0:A,0:A,0:A,0:A);?(0:B,0:B,0:B,0:?(0:B,0:?(0:1,0:?(0:1,0:2,0:3,0:4)),0:1))");
+        due("nodes", x.node(5, 0, 2), 1 + 3 * 21 + 1 + 21 + 2 + 5 + 1);
+        due("a node that is alone", x.change(0, 0, -1, 9), 5);
+        due("the last weight", x.weight(3, 2, 2, 8), 1);
+        due("the first weight", x.weight(0, 0, 0, 7), 1);
+        due("the last choice", x.change(5, 88, 3, 55), 0);
+        due("the last end", x.change(5, 93, -1, -55), 1);
+        x.undo();
+        due("1 again", x.node(5, 93, 1), 1);
+        due("55 still", x.node(5, 88, 23), 55);
+        x.undo();
+        due("0 again", x.node(5, 88, 23), 0);
+        due("7 still", x.chance(1, 0, 0), 7);
+        x.undo();
+        due("1 again", x.chance(1, 0, 0), 1);
+        due("9 of 11 still", x.chance(3 << 6, 3 << 4, 0), 4);
+        x.undo();
+        due("1 of 3 again", x.chance(3 << 6, 3 << 4, 0), 1);
+        due("9 still", x.node(0, 0, 1), 9);
+        x.undo();
+        due("5 again", x.node(0, 0, 1), 5);
+        for (int i = 4; i >= 0; i--) {
+            due("all again", x.redo(), i);
+        }
+        due("9", x.node(0, 0, 1), 9);
+        due("8 of 10", x.chance(3 << 6, 3 << 4, 1), 5);
+        due("7 of 9", x.chance(1, 0, 1), 9);
+        due("55", x.node(5, 88, 23), 55);
+        due("-55", x.node(5, 93, 1), -55);
     }
 
     // ---------------------------------------------------------------- 3 feelings and plans
@@ -851,6 +962,11 @@ public final class BoundsTest {
         due("became", x.plan(0, 0, -1), 0);
         due("an end", x.plan(0, 1, 0), BAD);
         due("an end stays", x.plan(0, 1, -1), BAD);
+        SueOrSettle alone = new SueOrSettle();
+        tell(alone, "?(3:4)");
+        due("one way", alone.plan(0, 0, -1), 0);
+        due("one way", alone.plan(0, 0, 0), 0);
+        due("no second way", alone.plan(0, 0, 1), BAD);
 
         says("SHORT: the first CHOICE (by number) at which another WAY alone makes WORTH greater; NOT: none.");
         x.plan(2, 0, 1);
@@ -948,6 +1064,16 @@ public final class BoundsTest {
         due("b and c", x.first(2), 1);
         due("told", tell(x, "?(0:1,0:!b(0,2),0:!c(0,3))"), 3);
         due("c", x.first(3), 2);
+        // Without asking 3 / 2; b: 0, 2 beside 3 / 2: 7 / 4; c: 0, 3 beside 1: 2; both: 3, 3, 2, 1.
+        fraction("b", x.ask(3, 1, 0), x.ask(3, 1, 1), 1, 4);
+        fraction("c", x.ask(3, 2, 0), x.ask(3, 2, 1), 1, 2);
+        fraction("9 / 4 less 7 / 4 less 2 and 3 / 2", x.together(3, 1, 2, 0), x.together(3, 1, 2, 1), 0, 1);
+        fraction("a is of no use", x.together(3, 0, 2, 0), x.together(3, 0, 2, 1), 0, 1);
+        due("told", tell(x, "?(9:-9,9:!a(-12,-8),9:!d(-12,-12,-7))"), 4);
+        // Without asking -18; a: -19, -17 by halves; d: -18, -18, -16 by thirds: -35 / 2 and -52 / 3.
+        due("all below 0: d", x.first(4), 3);
+        fraction("d", x.ask(4, 3, 0), x.ask(4, 3, 1), 2, 3);
+        fraction("a", x.ask(4, 0, 0), x.ask(4, 0, 1), 1, 2);
     }
 
     /** Settles for c, or sues for 999 with weights of a. */
@@ -995,6 +1121,12 @@ public final class BoundsTest {
         tell(x, "?(0:1,0:!a(0,0,!d(0,0,9)))");
         due("9 by 1 of 3 by 1 of 3 is 1; 4 of 6", x.edge(0, 322, 1), 1);
         due("row 0 is of no use", x.edge(0, 302, 1), NOT);
+        due("the first of d in row 2", x.edge(0, 320, 0), NOT);
+        tell(x, "?(0:1,0:!b(2,0),0:!c(2,0))");
+        due("the first of b", x.edge(1, 100, 1), 1);
+        due("the second of b", x.edge(1, 101, 1), NOT);
+        due("the first of c", x.edge(1, 200, 1), 1);
+        due("the second of c", x.edge(1, 201, 1), NOT);
         due("the last way of a", x.edge(0, 2, 1), 1);
         int[] none = {-1, 3, 4, 9, 10, 20, 102, 110, 202, 210, 303, 313, 323, 330, 390, 400, 1000, MIN, MAX};
         for (int at : none) {
@@ -1002,13 +1134,13 @@ public final class BoundsTest {
         }
         due("up -1", x.edge(0, 0, -1), BAD);
         due("up 2", x.edge(0, 0, 2), BAD);
-        due("no quarrel", x.edge(1, 0, 1), BAD);
+        due("no quarrel", x.edge(2, 0, 1), BAD);
         due("it stays", x.weight(3, 2, 2, 1), 1);
         says("NOT: no CHOICE");
         tell(x, "!a(1,2,3)");
-        due("no choice", x.edge(1, 0, 1), NOT);
-        due("no choice", x.edgeOf(1, 1, -1, 1), NOT);
-        due("no choice", x.most(1), NOT);
+        due("no choice", x.edge(2, 0, 1), NOT);
+        due("no choice", x.edgeOf(2, 1, -1, 1), NOT);
+        due("no choice", x.most(2), NOT);
     }
 
     private static int edgeOf(String text, int node, int way, int up) {
@@ -1137,8 +1269,11 @@ public final class BoundsTest {
         due("that of 2 and 3", x.plan(0, 0, -1), 1);
         due("that of 1", x.doubt(0, 0, 101, 1), 1);
         due("that of 1", x.plan(0, 0, -1), 0);
+        due("that of 2 .. 99", x.doubt(0, 0, 199, 1), 98);
+        due("that of 2 and 3 alone", x.doubt(0, 0, 203, 1), 2);
         due("all of them", x.doubt(0, 0, 299, 1), 98);
         due("the weight stays", x.weight(0, 0, 0, 1), 1);
+        steadyOfAHundredNodes();
         says("WORST of a PLAN: the least WORTH (COIN) over these");
         x.plan(0, 0, 1);
         fraction("1 of 3", x.worst(0, 0, 199, 0), x.worst(0, 0, 199, 1), 333, 1);
@@ -1147,6 +1282,10 @@ public final class BoundsTest {
         fraction("-999 by 99 of 101", x.worst(0, 0, 199, 0), x.worst(0, 0, 199, 1), -999 * 99, 101);
         due("what 2", x.worst(0, 0, 199, 2), NONE);
         due("what -1", x.worst(0, 0, 199, -1), NONE);
+        x = with(2);
+        tell(x, "!a(1,100)");
+        fraction("99 and 100 of 100", x.worst(0, 0, 199, 0), x.worst(0, 0, 199, 1), 199, 100);
+        fraction("50 and 100 of 51", x.worst(0, 0, 150, 0), x.worst(0, 0, 150, 1), 50, 17);
         says("BAD (also it HANGS), BIG.");
         x = justWithin();
         tell(x, "?(0:!a(1,5,1),0:1)");
@@ -1163,6 +1302,27 @@ public final class BoundsTest {
         due("98 is within", x.bottom(), 1000000000000L);
         due("99 is BIG", x.doubt(0, 0, 9899, 0), BIG);
         due("98 is within", x.doubt(0, 0, 198, 0), 98);
+    }
+
+    /** All choices of a plan count and are told, those of the last nodes too. */
+    private static void steadyOfAHundredNodes() {
+        SueOrSettle x = with(2);
+        x.weight(0, 0, 1, 3);
+        due("told", tell(x, "A=?(0:2,0:1,0:3,0:4);B=?(0:A,0:A,0:A,0:A);C=?(0:B,0:!a(9,0),0:5,0:"
+                + "?(0:".repeat(6) + "?(0:1,0:2)" + ")".repeat(6) + ");?(0:B,0:B,0:B,0:C)"), 0);
+        due("99 nodes", x.node(0, 0, 2), 99);
+        // 9 by 3 of 6 is less than 5, 9 by 4 of 7 is more.
+        due("2, 3: the third way in C; 4, 5: the second", x.doubt(0, 0, 205, 1), 2);
+        due("of like ones that of the least weight", x.plan(0, 64, -1), 2);
+        due("the last choice", x.plan(0, 96, -1), 1);
+        due("a choice of A", x.plan(0, 2, -1), 3);
+        due("the first", x.plan(0, 0, -1), 3);
+        due("4, 5, 6", x.doubt(0, 0, 306, 1), 3);
+        due("the second way in C", x.plan(0, 64, -1), 1);
+        due("the last choice", x.plan(0, 96, -1), 1);
+        x.change(0, 97, -1, 2);
+        due("4, 5, 6", x.doubt(0, 0, 306, 1), 3);
+        due("the last choice", x.plan(0, 96, -1), 0);
     }
 
     // ---------------------------------------------------------------- 5 two sides
@@ -1384,6 +1544,24 @@ public final class BoundsTest {
         due("d 4: 40, 40 holds, none is taken", x.holds(4, 2), 0);
         due("d 4: by 15 none gets more", x.holds(4, 1), 0);
         due("d 5: the weak one would ask for 15", x.holds(5, 1) == 0 ? 0 : 1, 1);
+        says("the first (by what SORTS make as digits base 4, SORT 0 the highest, then the bits)");
+        x.clear();
+        x.sort(1, 30, 1);
+        x.offer(90);
+        x.offer(31);
+        x.offer(32);
+        x.offer(30);
+        // 30 alone is taken with d 0: all ask for it, the offer 3.
+        due("one sort", x.holds(0, 1), 3);
+        x.sort(9, 30, 99);
+        due("two sorts", x.holds(0, 1), 15);
+        x.sort(2, 30, 1);
+        due("three sorts", x.holds(0, 1), 63);
+        due("it is taken", x.holds(0, 2), 8);
+        due("one holds", x.holds(0, 0), 1);
+        // With d 1 31 is taken, too: all ask for that.
+        due("31", x.holds(1, 1), 21);
+        due("31 and 30", x.holds(1, 2), 10);
         says("each SORT gets at most as much by another OFFER");
         x.clear();
         x.sort(1, 20, 5);
@@ -1692,6 +1870,8 @@ public final class BoundsTest {
             due("nothing at first", x.put(shelf, 0, 1), -11);
             due("a feeling", x.keep(shelf, 0), 1);
             due("a feeling", x.taken(shelf, 0), 5);
+            due("a feeling", x.put(shelf, 0, 1), -12);
+            due("a feeling", x.element(shelf, 0), NONE);
             due("a row", x.row(shelf, 0, 1), 1);
             due("a row", x.taken(shelf, 0), -12);
             due("a row", x.put(shelf, 0, 1), 1);
