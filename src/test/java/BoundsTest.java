@@ -583,6 +583,9 @@ public final class BoundsTest {
 
         says("of one that turned out on that way; a CAPITAL of which some NODE did");
         due("of itself", read("A=!a(1,2);!a(A,1)", 2, 3), -113);
+        due("of itself, b", read("A=!b(1,2,3);!b(1,2,A)", 2, 3), -100 - 19);
+        due("of itself, d", read("A=!d(1,2);!d(1,A)", 2, 3, 3, 2), -100 - 15);
+        due("of another", read("A=!d(1,2);!c(A,1,A)", 2, 3, 3, 2), 0);
         due("of a node in it", read("A=!b(1,2,!a(3,4));!a(1,A)", 2, 3), -100 - 23);
         due("of a capital in it", read("A=!a(1,2);B=?(1:A);!a(1,B)", 2, 3), -100 - 24);
         due("of none", read("A=!a(1,2);!b(A,A,A)", 2, 3), 0);
@@ -598,6 +601,11 @@ public final class BoundsTest {
         due("13: the (", read("?(0:".repeat(13) + "1" + ")".repeat(13)), -100 - 12 * 4 - 1);
         due("12, one of a thing", read("?(0:".repeat(11) + "!a(1,2)" + ")".repeat(11), 2), 0);
         due("13, one of a thing: the (", read("?(0:".repeat(12) + "!a(1,2)" + ")".repeat(12), 2), -100 - 12 * 4 - 2);
+        due("12, the first of a thing", read("!a(1," + "?(0:".repeat(11) + "1" + ")".repeat(12), 2), 0);
+        due("13, the first of a thing: the (", read("!a(1," + "?(0:".repeat(12) + "1" + ")".repeat(13), 2), -100 - 5 - 44 - 1);
+        due("12 in the first way of a thing", read("!a(" + "?(0:".repeat(11) + "1" + ")".repeat(11) + ",1)", 2), 0);
+        due("13 in the first way of a thing: the (", read("!a(" + "?(0:".repeat(12) + "1" + ")".repeat(12) + ",1)", 2),
+                -100 - 3 - 44 - 1);
         due("13 one behind the other", read("?(0:" + "?(0:1),0:".repeat(3) + "?(0:1))"), 0);
         String eight = "?(0:?(0:?(0:1)),0:?(0:?(0:?(0:1)),0:?(0:?(0:?(0:1)))))";
         due("far more than 12 in all", read("?(0:" + eight + ",0:" + eight + ")"), 0);
@@ -1043,6 +1051,9 @@ public final class BoundsTest {
         tell(none, "?(0:1,0:2)");
         fraction("all that is not there", none.ask(0, -1, 0), none.ask(0, -1, 1), 0, 1);
         due("no thing", none.ask(0, 0, 0), NONE);
+        SueOrSettle two = with(2);
+        tell(two, "?(0:5,0:!a(3,9))");
+        fraction("5 and 9 by halves, less 6", two.ask(0, -1, 0), two.ask(0, -1, 1), 1, 1);
         says("TOGETHER of two THINGS: top, bottom. Long.MIN_VALUE: BAD (one and the same), BIG.");
         fraction("of no use", x.together(0, 0, 3, 0), x.together(0, 0, 3, 1), 0, 1);
         for (int thing = 0; thing < 4; thing++) {
@@ -1323,6 +1334,25 @@ public final class BoundsTest {
         x.change(0, 97, -1, 2);
         due("4, 5, 6", x.doubt(0, 0, 306, 1), 3);
         due("the last choice", x.plan(0, 96, -1), 0);
+        for (int shift = 0; shift < 3; shift++) {
+            steadyAtEachNode(shift);
+        }
+    }
+
+    /** Every third node is a choice whose second way is best; they lie further back by a shift. */
+    private static void steadyAtEachNode(int shift) {
+        SueOrSettle x = with(2);
+        tell(x, "A=?(0:1,0:2);B=?(0:A,0:A,0:A,0:A);C=?(0:B,0:B,0:B);?(0:" + "?(0:".repeat(shift) + "0" + ")".repeat(shift)
+                + ",0:C,0:C,0:B)");
+        due("nodes", x.node(0, 0, 2), 95 + shift);
+        due("steady", x.doubt(0, 0, 199, 1), 99);
+        due("the first", x.plan(0, 0, -1), 1);
+        for (int node = 1; node < 95 + shift; node++) {
+            if (x.node(0, node, 0) == 1) {
+                boolean second = x.node(0, node, 1) == 2;
+                due("node " + node, x.plan(0, node, -1), second ? 1 : 0);
+            }
+        }
     }
 
     // ---------------------------------------------------------------- 5 two sides
@@ -1475,6 +1505,15 @@ public final class BoundsTest {
         x.cell(32, 1, 4);
         due("as good in row 3: column 2 stays", x.struck(0), 8);
         due("as good in row 3: column 2 stays", x.struck(1), 12);
+        // The same from the last row and column down.
+        for (int row = 0; row < 4; row++) {
+            for (int column = 0; column < 4; column++) {
+                x.cell(10 * (3 - row) + 3 - column, 0, row <= column + 1 ? row : 0);
+                x.cell(10 * (3 - row) + 3 - column, 1, column <= row ? column + 1 : 0);
+            }
+        }
+        due("the first row", x.struck(0), 1);
+        due("the first column", x.struck(1), 1);
     }
 
     private static void offers() {
