@@ -169,8 +169,16 @@ public final class RefusalTest {
         x.quarrel();
     }
 
-    /** Something of each, nothing full: the thing b hangs on a, c on none; three changes, of which one is undone. */
+    /** Something of each, nothing full: the thing b hangs on a, c on none; four changes, of which one is undone. */
     private static SueOrSettle busy() {
+        SueOrSettle x = quiet();
+        feed(x, "?(1:2)");
+        x.act(5, 3, 1);
+        return x;
+    }
+
+    /** The same without a tape and a trace. */
+    private static SueOrSettle quiet() {
         SueOrSettle x = new SueOrSettle();
         x.thing(3);
         x.thing(2);
@@ -188,7 +196,6 @@ public final class RefusalTest {
         x.change(0, 2, -1, 44);
         x.undo();
         busyFeelings(x);
-        feed(x, "?(1:2)");
         x.table(3, 2);
         x.cell(20, 0, 9);
         x.cell(11, 1, -4);
@@ -210,7 +217,6 @@ public final class RefusalTest {
         }
         x.step(0, 5);
         x.step(50, 2);
-        x.act(5, 3, 1);
     }
 
     /** A feeling, nothing, and rows of shorts, ints and longs, the last of which is empty. */
@@ -281,9 +287,14 @@ public final class RefusalTest {
     // ---------------------------------------------------------------- refusals
 
     private static void refused(Supplier<SueOrSettle> maker, String what, Call call, long want) {
+        becomes(maker, what, call, want, maker);
+    }
+
+    /** The call answers so, and then all is as in an object that another maker makes. */
+    private static void becomes(Supplier<SueOrSettle> maker, String what, Call call, long want, Supplier<SueOrSettle> then) {
         asked++;
         for (Look look : LOOKS) {
-            SueOrSettle before = maker.get();
+            SueOrSettle before = then.get();
             SueOrSettle after = maker.get();
             long got = call.on(after);
             if (got != want) {
@@ -304,7 +315,7 @@ public final class RefusalTest {
     }
 
     private static final Supplier<SueOrSettle> NEW = SueOrSettle::new, BUSY = RefusalTest::busy, ALL = RefusalTest::full,
-            HUGE = RefusalTest::big;
+            HUGE = RefusalTest::big, QUIET = RefusalTest::quiet;
 
     public static void main(String[] args) {
         things();
@@ -322,6 +333,8 @@ public final class RefusalTest {
         others();
         bigness();
         fullness();
+        emptied();
+        onlyAsked();
         System.out.println(asked + " refusals, " + wrong + " wrong");
         if (wrong != 0) {
             System.exit(1);
@@ -823,6 +836,59 @@ public final class RefusalTest {
         refused(ALL, "the fourth: sort(1, 1, 1)", x -> x.sort(1, 1, 1), FULL);
         refused(ALL, "the fifth: offer(1)", x -> x.offer(1), FULL);
         refused(ALL, "the fifth: effort(1, 1)", x -> x.effort(1, 1), FULL);
+    }
+
+    /** What empties the tape or the trace, and changes nothing else. */
+    private static void emptied() {
+        becomes(BUSY, "a fault", x -> {
+            feed(x, "x");
+            return x.quarrel();
+        }, -106, RefusalTest::quietThatActed);
+        becomes(QUIET, "an empty tape", SueOrSettle::quarrel, -100, QUIET);
+        becomes(QUIET, "too many nodes", x -> {
+            feed(x, "A=?(0:1,0:2,0:3,0:4);B=?(0:A,0:A,0:A,0:A);?(0:B,0:B,0:B,0:?(0:B,0:B))");
+            return x.quarrel();
+        }, FULL, QUIET);
+        int[][] acts = {{-1, 0}, {6, 0}, {0, -1}, {0, 4}, {MIN, 0}, {MAX, 0}, {0, MIN}, {0, MAX}};
+        for (int[] a : acts) {
+            becomes(RefusalTest::quietThatActed, "act " + a[0] + " " + a[1], x -> x.act(a[0], a[1], 5), 0, QUIET);
+        }
+        becomes(QUIET, "nothing is kept: clear() twice", x -> {
+            x.clear();
+            return x.clear();
+        }, 0, RefusalTest::quietWithoutSorts);
+    }
+
+    private static SueOrSettle quietThatActed() {
+        SueOrSettle x = quiet();
+        x.act(5, 3, 1);
+        return x;
+    }
+
+    private static SueOrSettle quietWithoutSorts() {
+        SueOrSettle x = quiet();
+        x.clear();
+        return x;
+    }
+
+    /** Calls that only ask change nothing. */
+    private static void onlyAsked() {
+        Call[] calls = {SueOrSettle::bottom, x -> x.number(0), x -> x.chance(1, 0, 0), x -> x.node(0, 0, 2),
+            x -> x.counts(1, 7), x -> x.best(0, 0, 0), x -> x.best(0, 3, 1), x -> x.best(1, 2, 0), x -> x.plan(0, 0, -1),
+            x -> x.judge(0, 0, 0), x -> x.judge(1, 3, 1), x -> x.judge(1, 2, 1), x -> x.shortOf(0, 0), x -> x.shortOf(1, 2),
+            x -> x.fork(0, 0, 0, 0), x -> x.fork(1, 2, 1, 1), x -> x.tell(0, -1), x -> x.tell(0, 0), x -> x.ask(0, 0, 0),
+            x -> x.ask(0, -1, 1), x -> x.together(0, 0, 1, 0), x -> x.first(0), x -> x.edge(0, 0, 0), x -> x.edge(0, 1, 1),
+            x -> x.edge(0, 121, 1), x -> x.edge(1, 2, 1), x -> x.edgeOf(0, 0, 0, 0), x -> x.edgeOf(0, 0, 1, 1),
+            x -> x.edgeOf(0, 2, -1, 1), x -> x.edgeOf(0, 3, -1, 0), x -> x.most(0), x -> x.most(1), x -> x.doubt(0, 0, 199, 0),
+            x -> x.doubt(1, 2, 5099, 0), x -> x.worst(0, 0, 199, 0), x -> x.worst(1, 0, 9999, 1), x -> x.sure(-1),
+            x -> x.sure(0), x -> x.lots(0), x -> x.struck(0), x -> x.struck(1), x -> x.holds(10, 0), x -> x.holds(10, 1),
+            x -> x.holds(10, 2), x -> x.hired(500, 0), x -> x.hired(500, 1), x -> x.hired(500, 2), x -> x.hired(500, 3),
+            x -> x.waits(20, 5, 0), x -> x.waits(1, 5, 1), x -> x.run(0, 5, 200), x -> x.run(1, MIN, 1), x -> x.trace(0),
+            x -> x.element(2, 0), x -> x.taken(0, 0), x -> x.count(0), x -> x.count(4), x -> x.shift(2, 0, 2, 0, 7),
+            x -> x.shift(2, 3, 5, 4, 0)};
+        for (int i = 0; i < calls.length; i++) {
+            refused(BUSY, "asked #" + i, calls[i], calls[i].on(busy()));
+        }
     }
 
     private static SueOrSettle fourThings() {
