@@ -778,6 +778,7 @@ public final class BoundsTest {
         due("the first one stays", x.number(0), 2);
         for (int i = 39; i >= 0; i--) {
             due("done again", x.redo(), i);
+            due("what it became", x.number(0), 42 - i);
         }
         due("none", x.redo(), STATE);
         due("42", x.number(0), 42);
@@ -988,6 +989,11 @@ public final class BoundsTest {
         x.plan(2, 0, 0);
         x.change(2, 4, -1, 9);
         due("two ways at once are not alone", x.shortOf(2, 0), NOT);
+        SueOrSettle four = new SueOrSettle();
+        four.feeling(0, 0);
+        tell(four, "?(0:?(0:9,0:5),0:1,0:1,0:1)");
+        four.plan(0, 1, 1);
+        due("none of four ways, but one of two", four.shortOf(0, 0), 1);
 
         says("LEAST: the least that counts over STATES, over 100");
         due("told", tell(x, "?(0:!a(7,-3),0:-3,0:!a(-4,99))"), 3);
@@ -1080,6 +1086,15 @@ public final class BoundsTest {
         fraction("c", x.ask(3, 2, 0), x.ask(3, 2, 1), 1, 2);
         fraction("9 / 4 less 7 / 4 less 2 and 3 / 2", x.together(3, 1, 2, 0), x.together(3, 1, 2, 1), 0, 1);
         fraction("a is of no use", x.together(3, 0, 2, 0), x.together(3, 0, 2, 1), 0, 1);
+        due("told", tell(x, "?(0:!a(0,2),0:!b(0,3),0:!c(0,2))"), 4);
+        // Without asking 3 / 2; a: 3 / 2, 2: 7 / 4; b: 1, 3: 2; c: 7 / 4; b and c: 1, 2, 3, 3: 9 / 4.
+        fraction("b and c", x.together(4, 1, 2, 0), x.together(4, 1, 2, 1), 0, 1);
+        fraction("a and c: 3 / 2, 2, 2, 2 less 7 / 2 and 3 / 2", x.together(4, 0, 2, 0), x.together(4, 0, 2, 1), -1, 8);
+        due("b", x.first(4), 1);
+        x = with(2, 2, 2, 3);
+        for (int i = 0; i < 4; i++) {
+            tell(x, "5");
+        }
         due("told", tell(x, "?(9:-9,9:!a(-12,-8),9:!d(-12,-12,-7))"), 4);
         // Without asking -18; a: -19, -17 by halves; d: -18, -18, -16 by thirds: -35 / 2 and -52 / 3.
         due("all below 0: d", x.first(4), 3);
